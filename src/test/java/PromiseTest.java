@@ -141,6 +141,12 @@ public final class PromiseTest {
         court.law(200, 28, 29, 30, 31, 8);
         forceIs(court, 200, 28, 29, 30, 31, 8);
         forceIs(court, 300, 22, 23, 24, 25, 6);
+        WardCourt late = new WardCourt();
+        late.law(200, 11, 12, 13, 14, 5);
+        late.law(100, 22, 23, 24, 25, 6);
+        forceIs(late, 99, 21, 100, 5, 50, 3);
+        forceIs(late, 199, 22, 23, 24, 25, 6);
+        forceIs(late, 200, 11, 12, 13, 14, 5);
         due("force(-1, 0)", court.force(-1, 0), -2);
         due("force(3600, 0)", court.force(3600, 0), -2);
         due("force(0, -1)", court.force(0, -1), -2);
@@ -230,6 +236,8 @@ public final class PromiseTest {
         court.ward(-10800);
         court.ward(-3961);
         court.ward(-3960);
+        court.ward(-7561);
+        due("of age since the day ahead of day 0", court.about(5, 2), 0);
         due("just of age on day 0", court.about(0, 2), 0);
         due("a day younger", court.about(1, 2), 1);
         due("long of age", court.about(2, 2), 0);
@@ -272,6 +280,16 @@ public final class PromiseTest {
         court.receive(101, 10, -1);
         due("what comes later stays", court.pot(101), 10);
         due("the share is as it was", court.about(1, 4), 25);
+        court.receive(200, 10, -1);
+        court.ward(-7360);
+        due("a share of the next, a head on day 100 too", court.about(3, 4), 37);
+
+        WardCourt small = courtWithoutInterest();
+        small.ward(-7560);
+        small.ward(-7560);
+        small.receive(0, 1, -1);
+        due("1 by 2 heads", small.about(0, 4), 0);
+        due("1 by 1 head", small.about(1, 4), 1);
 
         WardCourt poor = courtWithoutInterest();
         poor.ward(-7560);
@@ -423,6 +441,12 @@ public final class PromiseTest {
         due("it had still", court.vouch(1, false), 1);
         due("it had none again", court.vouch(1, false), 0);
         due("a voucher is no challenge", court.challenge(1, false), 0);
+        court.challenge(1, true);
+        due("without a voucher", court.pot(0), 1);
+        court.vouch(1, true);
+        due("with a voucher", court.pot(0), 0);
+        court.vouch(1, false);
+        due("voucher taken back", court.pot(0), 1);
     }
 
     private static void challenge() {
@@ -632,6 +656,15 @@ public final class PromiseTest {
         court.pay(359, 20, -1);
         due("items of a day come ahead of its count", court.pot(359), 181);
         account(court, 0, 0, 200, 20, 0, 1, 181);
+
+        WardCourt close = new WardCourt();
+        close.law(0, 21, 10000, 100, 50, 3);
+        close.law(358, 21, 9641, 100, 50, 3);
+        close.law(359, 21, 9901, 1, 50, 3);
+        close.receive(0, 10000, -1);
+        due("35999 counted", close.account(0, 4), 0);
+        close.law(359, 21, 9900, 1, 50, 3);
+        due("36000 counted", close.account(0, 4), 1);
 
         WardCourt given = new WardCourt();
         given.law(0, 21, 0, 100, 50, 3);
